@@ -358,7 +358,7 @@ public final class PromisedSlots {
         for (int d = 0; d < devices.length; d++) {
             devices[d].layAt(laid.homeAt(d), laid.lengthAt(d), laid.exponentAt(d));
             Coordinator home = coordinatorAt(devices[d].home);
-            if (d < laid.deviceCount && home != null) {
+            if (home != null) {
                 home.enlist(d);
             }
         }
@@ -497,7 +497,6 @@ public final class PromisedSlots {
         private final int[] exponents = new int[MOST_DEVICES];
 
         void clear() {
-            setOrders(0, 0, 1);
             life = 4;
             deviceCount = 0;
             coordinatorCount = 0;
@@ -593,7 +592,6 @@ public final class PromisedSlots {
             layout.clear();
             place = 0;
             why = 0;
-            clash = NONE;
             for (int items = 0; items < MOST_LETTERS && place < letters.size; items++) {
                 int first = place;
                 readItem(layout);
@@ -842,12 +840,13 @@ public final class PromisedSlots {
         private int givenUp;
         private int missed;
         private int deaf;
-        private boolean heard;
         private int doing;
         private int exponent;
         private int busyLooks;
         private int tries;
         private int hurtFrames;
+        // The fields from here on are set by whatever makes them count, so that layAt leaves them alone.
+        private boolean heard;
         private int wait;
         private int freeLooks;
         private int ticksToSend;
@@ -867,16 +866,11 @@ public final class PromisedSlots {
             givenUp = 0;
             missed = 0;
             deaf = 0;
-            heard = false;
             doing = RESTS;
             exponent = itsExponent;
             busyLooks = 0;
             tries = 0;
             hurtFrames = 0;
-            wait = 0;
-            freeLooks = 0;
-            ticksToSend = 0;
-            hurt = false;
         }
 
         boolean isOrphan() {

@@ -13,6 +13,7 @@ public final class SlotsTest {
         kept();
         unfit();
         idle();
+        idleComesUp();
         deafHolder();
         check.end();
     }
@@ -243,6 +244,27 @@ public final class SlotsTest {
         check.due("two went at once", z.promise(0, -1, 0), 1);
         check.due("the last one's slot", z.promise(0, 0, 1), 13);
         airIs(z, 39, 48, 12);
+    }
+
+    private static void idleComesUp() {
+        check.part("promise 15, idle parts come up too");
+        PromisedSlots x = Check.laid("o001;d010;d010;d010;l9;");
+        x.ask(0, 1);
+        x.load(0, 1, 99);
+        x.run(1);
+        x.ask(1, 1);
+        x.run(2);
+        x.ask(2, 2);
+        x.run(1);
+        int[] idle = {0, 3, 1};
+        for (int i = 0; i < 3; i++) {
+            check.due("idle " + i, x.promise(0, i, 3), idle[i]);
+        }
+        check.due("release", x.release(0), 1);
+        check.due("idle", x.promise(0, 0, 3), 3);
+        check.due("idle", x.promise(0, 1, 3), 1);
+        check.due("slots", x.promise(0, 0, 2), 1);
+        check.due("slots", x.promise(0, 1, 2), 2);
     }
 
     private static void deafHolder() {

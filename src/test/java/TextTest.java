@@ -228,31 +228,52 @@ public final class TextTest {
 
     private static void layBeginsAnew() {
         check.part("promise 5, all as at first");
-        PromisedSlots x = new PromisedSlots();
+        // K is 9: devices 0 and 1 are hurt and held, 2 waits for a long air, 3 holds a promise, 4 is deaf.
+        String text = "o203;d010;d010;d081;d010;d010;d010;c00048;l9;";
+        PromisedSlots x = Check.laid(text);
+        unsettle(x);
+        check.due("tries", x.device(0, 12), 2);
+        check.due("held", x.device(0, 9), 3);
+        check.due("lay", x.lay(), 6);
+        sameState(x, Check.laid(text));
+        check.due("no air", x.air(0, 0), PromisedSlots.NONE);
+        PromisedSlots fresh = Check.laid(text);
+        unsettle(x);
+        unsettle(fresh);
+        sameState(x, fresh);
+        x.lay();
+        check.due("nested again", x.nest(0, 96), 2);
+        check.due("its list", x.coordinator(2, 3), 0);
+        givenUpIsForgotten();
+    }
+
+    private static void unsettle(PromisedSlots x) {
         x.seed(77);
-        x.nest(0, 600);
-        x.ask(0, 3);
+        x.nest(0, 96);
+        x.ask(3, 13);
+        x.load(3, 1, 90);
         x.load(0, 0, 9);
-        x.load(0, 1, 9);
         x.load(1, 0, 9);
         x.load(2, 0, 9);
-        x.deafen(3, 9);
-        x.join(4, 0);
-        x.drop(5);
-        x.run(20);
-        x.nest(9, 9);
-        Check.write(x, "o418;d023;d012;d031;c00192;d123;d112;c00400;d221;l3;");
-        check.due("lay", x.lay(), 6);
-        PromisedSlots fresh = new PromisedSlots();
-        Check.write(fresh, "o418;d023;d012;d031;c00192;d123;d112;c00400;d221;l3;");
-        sameState(x, fresh);
+        x.load(2, 1, 9);
+        x.deafen(4, 9);
         x.run(3);
-        fresh.run(3);
-        sameState(x, fresh);
-        check.due("lay again", x.lay(), 6);
-        check.due("no air", x.air(0, 0), PromisedSlots.NONE);
-        check.due("nested again", x.nest(0, 600), 3);
-        check.due("its list", x.coordinator(3, 3), 0);
+        x.join(5, 2);
+        x.drop(1);
+        x.nest(9, 9);
+    }
+
+    /** Device 1 looks at a busy air five times (RunTest tells how): looks, exponent and what was given up begin anew too. */
+    private static void givenUpIsForgotten() {
+        PromisedSlots x = Check.laid("o001;d080;d011;");
+        x.seed(6388);
+        x.load(0, 0, 1);
+        x.load(1, 0, 1);
+        x.run(1);
+        check.due("given up", x.device(1, 6), 1);
+        check.due("looks", x.device(1, 11), 5);
+        check.due("lay", x.lay(), 2);
+        sameState(x, Check.laid("o001;d080;d011;"));
     }
 
     private static void sameState(PromisedSlots x, PromisedSlots y) {
