@@ -17,6 +17,7 @@ public final class PromisedSlots {
     private static final int FIRST_SEED = 1;
     private static final String FIRST_TEXT = "o418;d023;d012;d031;c00192;d123;d112;c00400;d221;l3;";
 
+    private static final int MOST_CAUSES = 3;
     private static final int CAUSE_FAULT = 1;
     private static final int CAUSE_NO_DEVICE = 2;
     private static final int CAUSE_LETTER = 10;
@@ -41,9 +42,9 @@ public final class PromisedSlots {
     private static final int HELD = 3;
     private static final int SENDS = 4;
 
-    private final Letters letters;
+    private final Row letters;
     private final Reader reader;
-    private final Causes causes;
+    private final Row causes;
     private final Coordinator[] coordinators;
     private final Device[] devices;
     private final Contention contention;
@@ -53,9 +54,9 @@ public final class PromisedSlots {
     private int partsGone;
 
     public PromisedSlots() {
-        letters = new Letters();
+        letters = new Row(MOST_LETTERS);
         reader = new Reader(letters);
-        causes = new Causes();
+        causes = new Row(MOST_CAUSES);
         contention = new Contention();
         laid = new Layout();
         spare = new Layout();
@@ -101,7 +102,7 @@ public final class PromisedSlots {
             return NO;
         }
         if (spare.deviceCount == 0) {
-            causes.add(CAUSE_NO_DEVICE);
+            causes.append(CAUSE_NO_DEVICE);
             return NO;
         }
         takeLayout();
@@ -115,18 +116,18 @@ public final class PromisedSlots {
     public int nest(int parent, int offset) {
         causes.clear();
         if (coordinatorAt(parent) == null || offset < 0 || offset >= laid.beat) {
-            causes.add(CAUSE_BAD);
+            causes.append(CAUSE_BAD);
             return BAD;
         }
         if (laid.coordinatorCount >= MOST_COORDINATORS) {
-            causes.add(CAUSE_MOST_COORDINATORS);
+            causes.append(CAUSE_MOST_COORDINATORS);
             return FULL;
         }
         int start = laid.startBehind(parent, offset);
         int clash = laid.clashOf(start);
         if (clash != NONE) {
-            causes.add(CAUSE_CLASH);
-            causes.add(CAUSE_CLASH_WITH + clash);
+            causes.append(CAUSE_CLASH);
+            causes.append(CAUSE_CLASH_WITH + clash);
             return NO;
         }
         int c = laid.coordinatorCount;
@@ -233,22 +234,22 @@ public final class PromisedSlots {
         causes.clear();
         Device who = deviceAt(d);
         if (who == null || n < 1 || n >= SLOTS) {
-            causes.add(CAUSE_BAD);
+            causes.append(CAUSE_BAD);
             return BAD;
         }
         Coordinator home = coordinatorAt(who.home);
         if (home == null || !home.lists(d) || promiserOf(d) != null) {
-            causes.add(CAUSE_NOT_NOW);
+            causes.append(CAUSE_NOT_NOW);
             return NO;
         }
         if (home.promises.size >= MOST_PROMISES) {
-            causes.add(CAUSE_MOST_PROMISES);
+            causes.append(CAUSE_MOST_PROMISES);
             return FULL;
         }
         int left = home.promises.sharedSlots() - n;
         if (left < laid.least) {
-            causes.add(CAUSE_LEAST);
-            causes.add(CAUSE_WOULD_BE_LEFT + Math.max(0, left));
+            causes.append(CAUSE_LEAST);
+            causes.append(CAUSE_WOULD_BE_LEFT + Math.max(0, left));
             return FULL;
         }
         home.promises.add(d, n);
@@ -337,10 +338,10 @@ public final class PromisedSlots {
     private int faultOfText() {
         int place = reader.readInto(spare);
         if (place != NONE) {
-            causes.add(CAUSE_FAULT);
-            causes.add(reader.why);
+            causes.append(CAUSE_FAULT);
+            causes.append(reader.why);
             if (reader.why == CAUSE_CLASH) {
-                causes.add(CAUSE_CLASH_WITH + reader.clash);
+                causes.append(CAUSE_CLASH_WITH + reader.clash);
             }
         }
         return place;
@@ -436,16 +437,21 @@ public final class PromisedSlots {
         return sent;
     }
 
-    /** THE TEXT. */
-    private static final class Letters {
-        private final int[] row = new int[MOST_LETTERS];
+    /** Numbers one behind the other, so many at most: the letters of THE TEXT, the CAUSES. */
+    private static final class Row {
+        private final int[] items;
         private int size;
 
-        boolean append(int letter) {
-            if (size >= row.length) {
+        Row(int most) {
+            items = new int[Math.max(0, most)];
+        }
+
+        /** Whether there was room for it. */
+        boolean append(int item) {
+            if (size >= items.length) {
                 return false;
             }
-            row[size] = letter;
+            items[size] = item;
             size++;
             return true;
         }
@@ -454,30 +460,8 @@ public final class PromisedSlots {
             size = 0;
         }
 
-        /** The letter at a place; behind the last one a number that is no letter. */
-        int at(int place) {
-            return place >= 0 && place < size && place < row.length ? row[place] : NONE;
-        }
-    }
-
-    /** Why the latest refusal came, the outermost cause first. */
-    private static final class Causes {
-        private final int[] row = new int[3];
-        private int size;
-
-        void clear() {
-            size = 0;
-        }
-
-        void add(int cause) {
-            if (size < row.length) {
-                row[size] = cause;
-                size++;
-            }
-        }
-
         int at(int i) {
-            return i >= 0 && i < size && i < row.length ? row[i] : NONE;
+            return i >= 0 && i < size && i < items.length ? items[i] : NONE;
         }
     }
 
@@ -578,12 +562,12 @@ public final class PromisedSlots {
 
     /** Reads THE TEXT letter for letter; from the first fault on nothing more is read. */
     private static final class Reader {
-        private final Letters letters;
+        private final Row letters;
         private int place;
         private int why;
         private int clash;
 
-        Reader(Letters letters) {
+        Reader(Row letters) {
             this.letters = letters;
         }
 
