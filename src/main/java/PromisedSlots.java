@@ -57,7 +57,6 @@ public final class PromisedSlots {
         letters = new Row(MOST_LETTERS);
         reader = new Reader(letters);
         causes = new Row(MOST_CAUSES);
-        contention = new Contention();
         laid = new Layout();
         spare = new Layout();
         coordinators = new Coordinator[MOST_COORDINATORS];
@@ -68,6 +67,7 @@ public final class PromisedSlots {
         for (int d = 0; d < devices.length; d++) {
             devices[d] = new Device(d);
         }
+        contention = new Contention(devices);
         for (int i = 0; i < FIRST_TEXT.length(); i++) {
             letters.append(FIRST_TEXT.charAt(i));
         }
@@ -413,13 +413,8 @@ public final class PromisedSlots {
     }
 
     private void hearBeacon(int c) {
-        contention.clear();
-        for (int d = 0; d < laid.deviceCount && d < devices.length; d++) {
-            Device each = devices[d];
+        for (Device each : devices) {
             each.heard = each.home == c && each.hearsBeacon();
-            if (each.heard) {
-                contention.admit(each);
-            }
         }
     }
 
@@ -981,21 +976,13 @@ public final class PromisedSlots {
 
     /** The shared slots of one active part, tick by tick, among the devices that heard its beacon. */
     private static final class Contention {
-        private final Device[] party = new Device[MOST_DEVICES];
-        private int partySize;
+        private final Device[] devices;
         private int seed;
         private int senders;
         private int lastSender;
 
-        void clear() {
-            partySize = 0;
-        }
-
-        void admit(Device who) {
-            if (partySize < party.length) {
-                party[partySize] = who;
-                partySize++;
-            }
+        Contention(Device[] devices) {
+            this.devices = devices;
         }
 
         /** How many frames were sent in the ticks from 1 on to less than the end. */
@@ -1019,8 +1006,7 @@ public final class PromisedSlots {
         private boolean takeUp(int t, int end) {
             boolean lively = false;
             senders = 0;
-            for (int i = 0; i < partySize; i++) {
-                Device each = party[i];
+            for (Device each : devices) {
                 begin(each, t);
                 if (each.doing == WAITS && each.wait == 0) {
                     each.lookOrHold(t, end);
@@ -1037,7 +1023,11 @@ public final class PromisedSlots {
             return lively;
         }
 
+        /** Whoever did not hear the beacon begins nothing here, and so rests or is held all through the part. */
         private void begin(Device who, int t) {
+            if (!who.heard) {
+                return;
+            }
             if (who.doing == RESTS && who.toContend > 0) {
                 who.beginFrame();
                 draw(who);
@@ -1055,8 +1045,7 @@ public final class PromisedSlots {
 
         /** Hurt frames, and steps (d), (e): whoever draws in (d) looked, so that it is not met as one that waits. */
         private void listenAndWait() {
-            for (int i = 0; i < partySize; i++) {
-                Device each = party[i];
+            for (Device each : devices) {
                 if (each.doing == SENDS) {
                     each.hurt = each.hurt || senders > 1;
                 } else if (each.doing == LOOKS && senders == 0) {
@@ -1074,8 +1063,7 @@ public final class PromisedSlots {
         /** Step (f): how many frames were sent. */
         private int endFrames() {
             int sent = 0;
-            for (int i = 0; i < partySize; i++) {
-                Device each = party[i];
+            for (Device each : devices) {
                 if (each.doing == SENDS) {
                     each.ticksToSend--;
                     if (each.ticksToSend <= 0) {
@@ -1099,9 +1087,9 @@ public final class PromisedSlots {
         }
 
         private void holdAll() {
-            for (int i = 0; i < partySize; i++) {
-                if (party[i].doing == WAITS || party[i].doing == LOOKS) {
-                    party[i].doing = HELD;
+            for (Device each : devices) {
+                if (each.doing == WAITS || each.doing == LOOKS) {
+                    each.doing = HELD;
                 }
             }
         }
