@@ -123,7 +123,8 @@ public final class EdgesOfTextsTest {
                         edges.sentence(words, "text " + item + ";d010;", "lay = 1", "count 3 = " + BEATS[b], "count 4 = " + ACTIVES[s],
                             "count 5 = " + ACTIVES[s] / 16, "count 6 = " + m);
                     } else {
-                        edges.sentence(words, "text " + item + ";d010;", "fault = 0", "count 9 = 2", "cause 0 = 1", "cause 1 = 12", "lay = NO");
+                        edges.sentence(words, "text " + item + ";d010;", "fault = 0", "count 9 = 2", "cause 0 = 1", "cause 1 = 12",
+                            "lay = NO");
                     }
                 }
             }
@@ -172,7 +173,8 @@ public final class EdgesOfTextsTest {
             text = text + "c" + (many - 1) + "0048;";
             faultless(words, text);
         }
-        edges.sentence(words, "laid " + text + "d010;", "coordinator 1 1 = 0", "coordinator 2 1 = 1", "coordinator 3 1 = 2", "coordinator 3 0 = 144");
+        edges.sentence(words, "laid " + text + "d010;", "coordinator 1 1 = 0", "coordinator 2 1 = 1", "coordinator 3 1 = 2",
+            "coordinator 3 0 = 144");
     }
 
     private static void offsets() {
@@ -206,7 +208,8 @@ public final class EdgesOfTextsTest {
             fault("there is such a one: not one that is told later", text + "d" + many + "10;c00480;", text.length(), "12");
             text = text + "c" + (many - 1) + "0048;";
         }
-        edges.sentence(words, "laid " + FOUR + "d310;d010;", "device 0 0 = 3", "device 1 0 = 0", "coordinator 3 3 = 1", "coordinator 0 3 = 2");
+        edges.sentence(words, "laid " + FOUR + "d310;d010;", "device 0 0 = 3", "device 1 0 = 0", "coordinator 3 3 = 1",
+            "coordinator 0 3 = 2");
     }
 
     private static void lengthsAndExponents() {
@@ -222,7 +225,8 @@ public final class EdgesOfTextsTest {
             fault("EXPONENT E (0 to 3)", "o001;d01" + e, 5, e <= 3 ? "11" : "12");
             fault("EXPONENT E (0 to 3)", "o001;d01" + e + "x", 5, e <= 3 ? "11" : "12");
             if (e <= 3) {
-                edges.sentence("EXPONENT E (0 to 3), (10; E at first)", "laid o001;d01" + e + ";", "device 0 2 = " + e, "device 0 10 = " + e);
+                edges.sentence("EXPONENT E (0 to 3), (10; E at first)", "laid o001;d01" + e + ";", "device 0 2 = " + e,
+                    "device 0 10 = " + e);
             }
         }
     }
@@ -238,8 +242,8 @@ public final class EdgesOfTextsTest {
         }
         edges.sentence("4 without", "count 7 = 3", "laid o001;d010;", "count 7 = 4", "laid o001;l9;d010;", "count 7 = 9",
             "laid o001;d010;", "count 7 = 4");
-        edges.sentence("a LIFE of a TEXT with a FAULT is forgotten", "text o001;d010;l9;x", "lay ! NO 1 10", "wipe", "text o001;d010;", "lay = 1",
-            "count 7 = 4");
+        edges.sentence("a LIFE of a TEXT with a FAULT is forgotten", "text o001;d010;l9;x", "lay ! NO 1 10", "wipe", "text o001;d010;",
+            "lay = 1", "count 7 = 4");
     }
 
     private static void mostCoordinators() {
@@ -310,8 +314,8 @@ public final class EdgesOfTextsTest {
 
     private static void aDeviceAtLeast() {
         for (String text : new String[] {"o001;", "o501;c00048;", "o001;l9;"}) {
-            edges.sentence("LAID is a TEXT with a DEVICE at least (NO else)", "text " + text, "fault = NONE", "lay ! NO 2", "text d010;", "lay = 1",
-                "count 9 = 0", "count 1 = 1");
+            edges.sentence("LAID is a TEXT with a DEVICE at least (NO else)", "text " + text, "fault = NONE", "lay ! NO 2", "text d010;",
+                "lay = 1", "count 9 = 0", "count 1 = 1");
         }
         edges.sentence("with a FAULT and without a DEVICE: the FAULT's CAUSES", "text o001;x", "lay ! NO 1 10");
     }
@@ -321,9 +325,18 @@ public final class EdgesOfTextsTest {
         List<String> moved = List.of("laid " + text, "seed 77", "nest 0 96", "ask 3 13", "load 3 1 90", "load 0 0 9", "load 1 0 9", "load 2 0 9",
             "deafen 4 9", "deafen 0 1", "run 7", "run 7", "join 5 2", "drop 1", "lay");
         edges.alike("LAID: all as at first, NOW 0, the SEED 1", moved, List.of("laid " + text));
-        edges.sentence("(THE TEXT stays)", "text o001;d010;", "lay = 1", "count 10 = 10", "lay = 1", "text d010;", "lay = 2", "count 1 = 2");
-        edges.sentence("fewer than there were: they are no more", "laid " + FOUR + "d310;d110;", "run 5", "laid o501;d010;", "coordinator 1 0 = BAD",
-            "device 1 0 = BAD", "air 0 0 = NONE", "count 12 = 0", "join 0 1 = BAD", "nest 0 96 = 1", "coordinator 1 3 = 0", "coordinator 1 5 = 0");
+        // Device 1 is HELD with LOOKS, TRIES and HURT frames then (EdgesOfRunsTest tells how).
+        List<String> held = List.of("laid o001;d080;d011;", "seed 7", "load 0 0 1", "load 1 0 1", "load 0 1 9", "load 1 1 9", "ask 1 1", "drop 1", "run 1", "lay");
+        edges.alike("LAID: all as at first, what DEVICES do, too", held, List.of("laid o001;d080;d011;"));
+        edges.sentence("LAID: all as at first, what DEVICES do, too", "laid o001;d080;d011;", "seed 7", "load 0 0 1", "load 1 0 1",
+            "load 1 1 9", "run 1", "device 1 9 = 3", "device 1 10 = 5", "device 1 11 = 4", "device 1 12 = 2", "device 1 13 = 2",
+            "device 0 5 = 1", "lay = 2", "device 1 4 = 0", "device 1 9 = 0", "device 1 10 = 1", "device 1 11 = 0", "device 1 12 = 0",
+            "device 1 13 = 0", "device 0 5 = 0");
+        edges.sentence("(THE TEXT stays)", "text o001;d010;", "lay = 1", "count 10 = 10", "lay = 1", "text d010;", "lay = 2",
+            "count 1 = 2");
+        edges.sentence("fewer than there were: they are no more", "laid " + FOUR + "d310;d110;", "run 5", "laid o501;d010;",
+            "coordinator 1 0 = BAD", "device 1 0 = BAD", "air 0 0 = NONE", "count 12 = 0", "join 0 1 = BAD", "nest 0 96 = 1",
+            "coordinator 1 3 = 0", "coordinator 1 5 = 0");
         edges.sentence("refused, nothing changes", "load 0 0 3", "ask 1 2", "run 2", "text o001;d010;o", "lay ! NO 1 10", "count 3 = 768");
     }
 
@@ -336,35 +349,36 @@ public final class EdgesOfTextsTest {
                 edges.sentence("CAUSES of the latest refusal", "drop 1", "text o6", first, second, first);
             }
         }
-        edges.sentence("1, 2 and 3 CAUSES", "text o501;c00000", "lay ! NO 1 13 20", "cause 2 = 20", "cause 3 = NONE", "wipe", "lay ! NO 2", "cause 0 = 2",
-            "cause 1 = NONE", "ask 0 9 ! FULL 17 37", "cause 1 = 37", "cause 2 = NONE");
+        edges.sentence("1, 2 and 3 CAUSES", "text o501;c00000", "lay ! NO 1 13 20", "cause 2 = 20", "cause 3 = NONE", "wipe", "lay ! NO 2",
+            "cause 0 = 2", "cause 1 = NONE", "ask 0 9 ! FULL 17 37", "cause 1 = 37", "cause 2 = NONE");
     }
 
     private static void causesGo() {
         String[] goods = {"nest 0 550 = 3", "ask 0 1 = 15", "fault = NONE", "lay = 1"};
         for (String bad : new String[] {"nest 9 9 ! BAD 18", "ask 9 9 ! BAD 18", "ask 0 15 ! FULL 17 31", "nest 0 0 ! NO 13 20"}) {
             for (String good : goods) {
-                edges.sentence("none again when one of these is not refused", "text o001;d010;", bad, good, "count 9 = 0", "cause 0 = NONE");
+                edges.sentence("none again when one of these is not refused", "text o001;d010;", bad, good, "count 9 = 0",
+                    "cause 0 = NONE");
             }
         }
         for (String bad : new String[] {"fault ! 5 1 12", "lay ! NO 1 12"}) {
             for (String good : goods) {
-                edges.sentence("none again when one of these is not refused", "text o001;d9", bad, "wipe", "text o001;d010;", "count 9 = 2", good,
-                    "count 9 = 0", "cause 0 = NONE");
+                edges.sentence("none again when one of these is not refused", "text o001;d9", bad, "wipe", "text o001;d010;", "count 9 = 2",
+                    good, "count 9 = 0", "cause 0 = NONE");
             }
         }
         edges.sentence("FAULT. NONE (that is no refusal)", "lay ! NO 2", "fault = NONE", "count 9 = 0");
-        edges.sentence("other calls leave them", "nest 0 1 ! NO 13 20", "write 111", "write 0 ! BAD", "wipe", "cause -1 ! BAD", "cause 9 ! NONE",
-            "seed 65521 ! BAD", "seed 5", "join 0 0 ! NO", "join 0 1", "drop 6 ! BAD", "drop 0", "load 0 2 0 ! BAD", "load 0 0 99", "load 0 0 1 ! FULL",
-            "deafen 0 10 ! BAD", "deafen 0 1", "scan 0 ! NO", "scan 6 ! BAD", "release 0 ! NO", "promise 0 0 0 ! NONE", "promise 3 0 0 ! BAD", "run 0 ! BAD",
-            "run 1", "air 1 0 ! NONE", "air 0 96 ! BAD", "coordinator 3 0 ! BAD", "device 6 0 ! BAD", "count 13 ! BAD", "count 9 = 2", "cause 0 = 13",
-            "cause 1 = 20");
+        edges.sentence("other calls leave them", "nest 0 1 ! NO 13 20", "write 111", "write 0 ! BAD", "wipe", "cause -1 ! BAD",
+            "cause 9 ! NONE", "seed 65521 ! BAD", "seed 5", "join 0 0 ! NO", "join 0 1", "drop 6 ! BAD", "drop 0", "load 0 2 0 ! BAD",
+            "load 0 0 99", "load 0 0 1 ! FULL", "deafen 0 10 ! BAD", "deafen 0 1", "scan 0 ! NO", "scan 6 ! BAD", "release 0 ! NO",
+            "promise 0 0 0 ! NONE", "promise 3 0 0 ! BAD", "run 0 ! BAD", "run 1", "air 1 0 ! NONE", "air 0 96 ! BAD",
+            "coordinator 3 0 ! BAD", "device 6 0 ! BAD", "count 13 ! BAD", "count 9 = 2", "cause 0 = 13", "cause 1 = 20");
     }
 
     private static void noSuchCause() {
-        edges.sentence("The i-th CAUSE. BAD (below 0); NONE: not so many", "cause -1 ! BAD", "cause LOW ! BAD", "cause 0 ! NONE", "cause HIGH ! NONE",
-            "lay ! NO 2", "cause -1 ! BAD", "cause 0 = 2", "cause 1 ! NONE", "nest 0 0 ! NO 13 20", "cause 0 = 13", "cause 1 = 20", "cause 2 ! NONE",
-            "text o501;c00000", "fault ! 5 1 13 20", "cause -1 ! BAD", "cause 2 = 20", "cause 3 ! NONE", "cause 4 ! NONE", "cause HIGH ! NONE",
-            "cause LOW ! BAD");
+        edges.sentence("The i-th CAUSE. BAD (below 0); NONE: not so many", "cause -1 ! BAD", "cause LOW ! BAD", "cause 0 ! NONE",
+            "cause HIGH ! NONE", "lay ! NO 2", "cause -1 ! BAD", "cause 0 = 2", "cause 1 ! NONE", "nest 0 0 ! NO 13 20", "cause 0 = 13",
+            "cause 1 = 20", "cause 2 ! NONE", "text o501;c00000", "fault ! 5 1 13 20", "cause -1 ! BAD", "cause 2 = 20", "cause 3 ! NONE",
+            "cause 4 ! NONE", "cause HIGH ! NONE", "cause LOW ! BAD");
     }
 }
